@@ -52,13 +52,13 @@ public final class CodeHunt {
             return BAD;
         }
         int longest = (1 << n) - 1;
-        int found = 0;
+        int many = 0;
         for (int taps = 1; taps <= longest; taps += 2) {
             if (stepsToReturn(n, taps, 1) == longest) {
-                found++;
+                many++;
             }
         }
-        return found;
+        return many;
     }
 
     public int join(int a, int b, int d, int c) {
@@ -255,15 +255,15 @@ public final class CodeHunt {
             return BAD;
         }
         int best = 0;
-        int most = lengths.howManyFit(0);
+        int mostFit = lengths.howManyFit(0);
         for (int number = 1; number < half; number++) {
             int fit = lengths.howManyFit(number);
-            if (fit > most) {
-                most = fit;
+            if (fit > mostFit) {
+                mostFit = fit;
                 best = number;
             }
         }
-        return 10 * best + most;
+        return 10 * best + mostFit;
     }
 
     public int hits(int p, int a, int b, int s, int t) {
@@ -676,7 +676,7 @@ public final class CodeHunt {
 
         // written without from + n, which could wrap
         boolean hasSpan(int from, int n) {
-            return from >= 0 && n >= 0 && n <= size && from <= size - n;
+            return from >= 0 && n >= 0 && from <= size - n;
         }
 
         int itemOrZero(int i) {

@@ -215,6 +215,8 @@ public final class PromisesTest {
         due(9, "b", h.like(0, 8, 0), -1002);
         due(10, "two rows", h.most(0, 1), 2);
         due(10, "with itself", h.most(0, 0), 0);
+        row(h, 4, 1, -1, -1, -1, -1, -1);
+        due(10, "with itself, all shifts alike", h.most(4, 4), 2);
         due(10, "with itself, below 0", h.most(1, 1), 4);
         due(10, "with itself, one sign", h.most(2, 2), 0);
         due(10, "two rows of one sign", h.most(2, 3), 1);
@@ -636,6 +638,9 @@ public final class PromisesTest {
         due(30, "down", h.copy(0, 1, 0, 0, 4), 1);
         items(30, h, 0, 1, 2, 3, 4, 4);
         due(30, "nothing, at both ends", h.copy(0, 5, 1, 3, 0), 1);
+        fill(h, 2, 7, 8, 9);
+        due(30, "all of it", h.copy(2, 0, 1, 0, 3), 1);
+        items(30, h, 1, 7, 8, 9);
         h.reel(2, 1, 9);
         due(30, "unlike forms", h.copy(0, 0, 2, 0, 1), STORE);
         due(30, "STORE ahead of INDEX", h.copy(0, -1, 2, 0, 1), STORE);
@@ -647,7 +652,7 @@ public final class PromisesTest {
             due(30, "copy " + Arrays.toString(a), h.copy(a[0], a[1], a[2], a[3], a[4]), INDEX);
         }
         items(30, h, 0, 1, 2, 3, 4, 4);
-        items(30, h, 1, 0, 3, 4);
+        items(30, h, 1, 7, 8, 9);
         due(30, "from a lost one", h.copy(3, 0, 0, 0, 0), NULL);
         due(30, "to a lost one", h.copy(0, -1, 3, 0, 0), NULL);
         due(30, "r", h.copy(-1, 0, 3, 0, 0), BAD);
