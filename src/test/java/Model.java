@@ -15,7 +15,25 @@ final class Model {
     private int doubt = 50;
     int finding = 0;
 
-    long answer(String name, int[] a) {
+    /** Another that stands where this one does; what it is told later is its own. */
+    Model copy() {
+        Model other = new Model();
+        for (int row = 0; row < rows.length; row++) {
+            other.rows[row] = rows[row] == null ? null : rows[row].clone();
+        }
+        for (int reel = 0; reel < items.length; reel++) {
+            other.items[reel] = items[reel] == null ? null : items[reel].clone();
+            other.forms[reel] = forms[reel];
+        }
+        other.lengths.addAll(lengths);
+        other.times = new ArrayList<>(times);
+        other.noise = noise;
+        other.doubt = doubt;
+        other.finding = finding;
+        return other;
+    }
+
+    long answer(String name, int... a) {
         return switch (name) {
             case "make", "period", "full", "join", "load", "drop", "sign", "like", "most" -> ofRows(name, a);
             case "heard", "search", "sure", "power", "doubt" -> ofSearches(name, a);

@@ -15,6 +15,7 @@ public final class ReelEdgesTest {
         counts();
         findings();
         digests();
+        lastCall();
         S.end();
     }
 
@@ -918,6 +919,11 @@ public final class ReelEdgesTest {
             count 1 = 1
             range = 4
             """.formatted(digest(1, 1, 50, 0, 0, 2, 1, -1, 4, 0)));
+    }
+
+    private static void lastCall() {
+        S.run("an object is used for 512 calls", "row 0 +-\nreel 0 2 3 = 3\n"
+            + "add 0 0 1 0 7 = 2\n".repeat(504) + "add 0 0 2 0 1 = 1\nitems 0 2 0 3528 -3527\n");
     }
 
     private static long digest(long... parts) {
