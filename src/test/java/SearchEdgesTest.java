@@ -262,6 +262,17 @@ public final class SearchEdgesTest {
             search 0 0 = 0
             count 3 = 0
             """);
+        S.run("THE SEARCH where nothing was heard, behind one that found", """
+            row 0 ++-
+            fill 0 2 9 9 9
+            search 0 0 = 2001
+            search 0 3 = 0
+            power 0 0 = 729
+            power 0 3 = 0
+            doubt 100 = 50
+            sure 0 0 = 1
+            sure 0 3 = 0
+            """);
         S.run("THE SEARCH: of like ones the least TONE", """
             row 0 -
             fill 0 2 3
@@ -380,6 +391,28 @@ public final class SearchEdgesTest {
             doubt 0 = 100
             sure 0 0 = 0
             sure 0 300 = 0
+            """);
+        S.run("SURE: the next greatest POWER ahead of the greatest", """
+            row 0 ++-
+            fill 0 2 -1 5 -6
+            fill 1 2 -3 5 2    # 100 180 100 - 40 0 160 - 100 20 100 - 160 200 40
+            search 0 0 = 3001
+            power 0 0 = 200
+            doubt 90 = 50
+            sure 0 0 = 1
+            doubt 89 = 90
+            sure 0 0 = 0
+            """);
+        S.run("SURE: the next greatest POWER behind the greatest", """
+            row 0 ++-
+            fill 0 2 -4 2 4
+            fill 1 2 -4 -5 -5  # 52 20 136 - 146 18 74 - 136 200 52 - 74 170 146
+            search 0 0 = 2001
+            power 0 0 = 200
+            doubt 85 = 50
+            sure 0 0 = 1
+            doubt 84 = 85
+            sure 0 0 = 0
             """);
         S.run("SURE: POWERS longer than an int", """
             row 0 ++++-
