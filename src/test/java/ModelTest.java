@@ -5,9 +5,9 @@ import java.util.Random;
 
 /** Runs of calls drawn from fixed seeds, each answer held against a second, slower reading of the document. */
 public final class ModelTest {
-    private static final int RUNS = 1800;
-    // each call is followed by two that look at the state, and an object is good for 512
-    private static final int CALLS = 170;
+    private static final int RUNS = 1800, LONG_RUNS = 300;
+    private static final int LAST_CALL = 512;
+    private static final int LOOKS = 2;
     private static final int[] EXTREMES = {
         Integer.MIN_VALUE, Integer.MIN_VALUE + 1, -1001, -2, -1, 0, 1, 2, 7, 8, 126, 127, 128, 300, 301,
         1000, 1001, 20000, 20001, Integer.MAX_VALUE - 1, Integer.MAX_VALUE};
@@ -49,34 +49,66 @@ public final class ModelTest {
         new Call("count", 4, 0, 4),
         new Call("digest", 2),
     };
+    private static final int ALL_WEIGHTS = Arrays.stream(FACE).mapToInt(Call::weight).sum();
 
     public static void main(String[] args) {
-        int total = Arrays.stream(FACE).mapToInt(Call::weight).sum();
         for (int run = 0; run < RUNS; run++) {
-            Random random = new Random(run);
-            CodeHunt hunt = new CodeHunt();
-            Model model = new Model();
-            List<String> told = new ArrayList<>();
-            for (int i = 0; i < CALLS; i++) {
-                Call call = draw(random, total);
-                int[] a = numbers(random, call, model);
-                long due = model.answer(call.name(), a);
-                long got = Calls.ask(hunt, call.name(), a);
-                told.add(call.name() + Arrays.toString(a) + " answered " + got);
-                boolean sameState = hunt.digest() == model.digest() && hunt.count(3) == model.finding;
-                if (got != due || !sameState) {
-                    told.forEach(System.out::println);
-                    System.out.println("seed " + run + ", last row: due is " + due
-                        + (sameState ? "" : ", and the state is not as due"));
-                    System.exit(1);
-                }
-            }
+            runWithLooks(run);
+        }
+        for (int run = 0; run < LONG_RUNS; run++) {
+            runToTheLastCall(RUNS + run);
         }
         System.out.println("all answers are as the model's");
     }
 
-    private static Call draw(Random random, int total) {
-        int left = random.nextInt(total);
+    /** Each call is followed by two that look at the state, so that a fault is told where it comes to be. */
+    private static void runWithLooks(int seed) {
+        Random random = new Random(seed);
+        CodeHunt hunt = new CodeHunt();
+        Model model = new Model();
+        List<String> told = new ArrayList<>();
+        for (int i = 0; i < LAST_CALL / (1 + LOOKS); i++) {
+            boolean right = callIsAsDue(random, hunt, model, told);
+            boolean sameState = hunt.digest() == model.digest() && hunt.count(3) == model.finding;
+            if (!right || !sameState) {
+                fail(seed, told, sameState ? "" : "; the state is not as due");
+            }
+        }
+    }
+
+    /** No looks between: none can cover up what a call leaves to the next ones. The last call of all is digest(). */
+    private static void runToTheLastCall(int seed) {
+        Random random = new Random(seed);
+        CodeHunt hunt = new CodeHunt();
+        Model model = new Model();
+        List<String> told = new ArrayList<>();
+        for (int i = 1; i < LAST_CALL; i++) {
+            if (!callIsAsDue(random, hunt, model, told)) {
+                fail(seed, told, "");
+            }
+        }
+        if (hunt.digest() != model.digest()) {
+            fail(seed, told, "; digest() behind it is not as due");
+        }
+    }
+
+    private static boolean callIsAsDue(Random random, CodeHunt hunt, Model model, List<String> told) {
+        Call call = draw(random);
+        int[] a = numbers(random, call, model);
+        long due = model.answer(call.name(), a);
+        long got = Calls.ask(hunt, call.name(), a);
+        told.add(call.name() + Arrays.toString(a) + " answered " + got + ", due is " + due);
+        return got == due;
+    }
+
+    private static void fail(int seed, List<String> told, String more) {
+        told.forEach(System.out::println);
+        System.out.println("seed " + seed + ", last row" + more);
+        System.exit(1);
+    }
+
+    private static Call draw(Random random) {
+        int left = random.nextInt(ALL_WEIGHTS);
         for (Call call : FACE) {
             left -= call.weight();
             if (left < 0) {

@@ -481,6 +481,24 @@ public final class PeelEdgesTest {
             peel 0 22 = 0
             noise = 2200000000
             """);
+        loudItemLeft();
+    }
+
+    /** All items are 10000 in amount, but the 20 times heap up 48678 on item 0, whose square alone is above the ints. */
+    private static void loudItemLeft() {
+        String signs = "+++++--+++-+-+--++++------++-+-+-+-+-+--++++-++++-+-++-+-++++++-"
+            + "++----++-+--+--+-+-+-++-++-------+--+++--+--+-++-----+++++-----";
+        S.run("NOISE, one square longer than an int", "row 1 " + signs + "\nreel 0 1 127 = 127\n"
+            + "add 1 0 0 0 1000 = 127\n".repeat(10) + """
+            drop 1 = 127
+            make 0 7 3 1 = 127
+            peel 0 127 = 20
+            peeled 0 1 = 13
+            peeled 0 2 = 2126
+            peeled 19 1 = 97
+            peeled 19 2 = 1855
+            noise = 3157893724
+            """);
     }
 
     private static void following() {
